@@ -33,6 +33,8 @@ public final class SmokeRings {
     private static final int SHEETS = 4;
     private static final int MOST_NUMBERS = 40;
     private static final int MOST_OFF = 1000000;
+    /** More than all numbers of a FILM together can be OFF. */
+    private static final int TOO_FAR_OFF = MOST_NUMBERS * MOST_OFF + 1;
     private static final int SPUN_STEP = 9;
 
     private static final int THROUGH = 1;
@@ -375,7 +377,7 @@ public final class SmokeRings {
             return error(wrong);
         }
         ahead.become(room);
-        return offBy(sheets[sheet], Integer.MAX_VALUE);
+        return offBy(sheets[sheet], TOO_FAR_OFF);
     }
 
     public int spun(int sheet) {
@@ -384,7 +386,7 @@ public final class SmokeRings {
             return error(wrong);
         }
         ahead.become(room);
-        int least = Integer.MAX_VALUE;
+        int least = TOO_FAR_OFF;
         int answer = 0;
         for (int turning = 0; turning <= MOST_TURNING; turning += SPUN_STEP) {
             ahead.takeRings(room);
@@ -404,7 +406,7 @@ public final class SmokeRings {
             return error(wrong);
         }
         ahead.become(room);
-        int least = Integer.MAX_VALUE;
+        int least = TOO_FAR_OFF;
         int answer = 0;
         for (int set = 0; set < 1 << room.lawCount; set++) {
             ahead.takeRings(room);
@@ -422,7 +424,7 @@ public final class SmokeRings {
         if (!isHeld(c, 1, 9999)) {
             return error(BEYOND);
         }
-        int best = Integer.MIN_VALUE;
+        int best = -MOST_LONG;
         int answer = 0;
         for (int l = 1; l <= MOST_LONG; l++) {
             int trailing = room.trailing(l);
@@ -777,7 +779,7 @@ public final class SmokeRings {
 
         int pace() {
             int factor = 3;
-            for (int w = wide; w > thick; w /= 2) {
+            for (int w = wide; w > 0 && w > thick; w /= 2) {
                 factor++;
             }
             return quotient(turning * factor, wide);
@@ -1112,7 +1114,7 @@ public final class SmokeRings {
 
         /** Operators that bind more tightly than a rank have all that they take. */
         private void popAbove(int rank) {
-            while (top > 0 && rank(stack[top - 1]) > rank) {
+            for (int i = top; i > 0 && rank(stack[i - 1]) > rank; i--) {
                 pop();
             }
         }

@@ -23,12 +23,13 @@ public final class RandomRunsTest {
             System.exit(1);
         }
         int wrong = 0;
+        int runs = args.length > 0 ? Integer.parseInt(args[0]) : RUNS;
         Map<String, Integer> answered = new HashMap<>();
-        for (int run = 0; run < RUNS && wrong < 5; run++) {
+        for (int run = 0; run < runs && wrong < 5; run++) {
             wrong += runOnce(run, ours, plain, answered);
         }
         for (String name : ours.keySet()) {
-            if (answered.getOrDefault(name, 0) < 50) {
+            if (answered.getOrDefault(name, 0) < runs / 30) {
                 System.out.println(name + " was hardly ever answered without an ERROR");
                 wrong++;
             }
