@@ -744,8 +744,11 @@ public final class SmokeRings {
             Arrays.fill(numbers, 0);
         }
 
+        /** Number i becomes the lowest bits of v, with their sign. */
         void write(int i, int v) {
-            numbers[i] = bits == 8 ? (byte) v : bits == 16 ? (short) v : v;
+            if (has(i)) {
+                numbers[i] = bits == 8 ? (byte) v : bits == 16 ? (short) v : v;
+            }
         }
     }
 

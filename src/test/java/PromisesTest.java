@@ -23,6 +23,7 @@ public final class PromisesTest {
         lawsAsKinds();
         turningLaws();
         whatLawsDo();
+        edgesOfLaws();
         pairs();
         hole();
         strokes();
@@ -332,6 +333,32 @@ public final class PromisesTest {
         due("other -1", s.does(0, 0, -1, 1), BEYOND);
         due("itself", s.does(0, 0, 0, 0), BEYOND);
         due("itself", s.does(0, 0, 0, 1), BEYOND);
+    }
+
+    private static void edgesOfLaws() {
+        promise = 10;
+        SmokeRings s = new SmokeRings();
+        s.law(1, 50);
+        s.law(2, 20);
+        s.law(4, 1);
+        s.ring(xy(0, 0), 1, 90, 14904);
+        s.ring(xy(-6, -100), 1, 90, 15003);
+        s.ring(xy(-7, 199), 1, 90, 5003);
+        s.ring(xy(-21, 0), 1, 90, 15003);
+        due("closer than both are thick: 2 * (4500 / 16)", s.does(0, 0, 1, 0), 562);
+        due("as far as both are thick: not near", s.does(0, 0, 2, 0), 0);
+        due("farther than both are thick", s.does(0, 1, 3, 0), 180);
+        due("150 wide", s.does(2, 1, 0, 1), 1);
+        due("149 wide", s.does(2, 0, 1, 1), 0);
+        due("wide, but not near", s.does(2, 1, 2, 1), 0);
+        due("m far", s.does(1, 3, 1, 1), 1);
+        due("farther than m", s.does(1, 3, 0, 1), 0);
+        SmokeRings seven = new SmokeRings();
+        seven.law(1, 50);
+        seven.ring(xy(0, 0), -1, 90, 2004);
+        seven.ring(xy(7, 0), -1, 90, 2003);
+        due("as far as both are thick: once", seven.does(0, 0, 1, 0), 264);
+        due("likewise behind", seven.does(0, 1, 0, 0), -264);
     }
 
     private static void pairs() {
@@ -734,6 +761,7 @@ public final class PromisesTest {
         SmokeRings s = new SmokeRings();
         due("none", s.front(), NONE);
         plain(s, 5, 1, 40);
+        due("alone", s.front(), 0);
         plain(s, 9, -1, 40);
         plain(s, 9, 1, 40);
         due("of several the least", s.front(), 1);
@@ -892,6 +920,11 @@ public final class PromisesTest {
         due("behind 1", s.second(4, 1, 40), 5);
         due("too soon", s.second(3, 1, 40), NONE);
         due("nothing has changed", s.count(1), 1);
+        text(s, 0, "(q=99)*30");
+        due("the quickest", s.second(2, 0, 40), 99);
+        text(s, 0, "30");
+        due("the least quick", s.second(2, 0, 1), 1);
+        due("the longest", s.second(2, 0, 400), 1);
         int[][] beyond = {{61, 0, 1}, {-1, 0, 1}, {0, 21, 1}, {0, -1, 1}, {0, 0, 0}, {0, 0, 401}};
         for (int[] b : beyond) {
             due("beyond", s.second(b[0], b[1], b[2]), BEYOND);
@@ -918,6 +951,12 @@ public final class PromisesTest {
         due("v 1000", s.alike(1, 1000), BEYOND);
         due("v -1", s.alike(1, -1), BEYOND);
         due("nothing has changed", s.count(1), 1);
+        text(s, 1, "(t<40)*40");
+        due("all that is less is lost", s.alike(2, 40), 0);
+        SmokeRings many = new SmokeRings();
+        many.law(0, 99);
+        due("99 at most", many.alike(9, 900), 99);
+        due("v at most", many.alike(9, 9) <= 9 ? 1 : 0, 1);
         SmokeRings wall = new SmokeRings();
         wall.wall(-30);
         text(wall, 1, "0");
@@ -1015,6 +1054,11 @@ public final class PromisesTest {
         due("as long as may be", s.heart(30), 3001);
         text(s, 0, "l*3");
         due("most at the end, held at 999", s.heart(9999), 33301);
+        text(s, 0, "(l=400)*999");
+        due("the longest", s.heart(9999), 40001);
+        text(s, 0, "(l=1)*(q=99)");
+        due("the quickest", s.heart(99), 199);
+        due("not quite so much", s.heart(98), 101);
         text(s, 0, "0");
         due("none turns", s.heart(9999), 101);
     }
