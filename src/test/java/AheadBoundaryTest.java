@@ -354,14 +354,16 @@ public final class AheadBoundaryTest extends Boundary {
 
     private void farthestInARoomWithoutRings() {
         says("26: each alone in a room without RINGS (LAWS, WALL, TEXTS as now)");
-        looks("eight RINGS are no lack", () -> {
-            SmokeRings s = withTexts("l*q", "0");
-            s.law(2, 99);
-            for (int i = 0; i < 8; i++) {
-                plain(s, 10 * i, 1, 900);
-            }
-            return s;
-        }, s -> s.farthest(60, 3, 3), 303);
+        for (int rings : new int[] {1, 8}) {
+            looks(rings + " RINGS that would be joined", () -> {
+                SmokeRings s = withTexts("l*q", "0");
+                s.law(2, 99);
+                for (int i = 0; i < rings; i++) {
+                    plain(s, i == 0 ? 0 : 5000 + 200 * i, 1, 1);
+                }
+                return s;
+            }, s -> s.farthest(60, 3, 3), 303);
+        }
         // near WALL 1 gets 21 wide and is lost then, 2 gets 18 wide and goes on
         Maker spreading = () -> {
             SmokeRings s = withTexts("(q=1)*9+(q=2)*7", "(w>20)*t");
@@ -608,6 +610,26 @@ public final class AheadBoundaryTest extends Boundary {
             s.law(2, 19);
             return s;
         }, s -> s.alike(2, 9), 8);
+        says("28: both WAY 1, Y 0, WIDE 20, THICK 4");
+        Maker exact = () -> {
+            SmokeRings s = new SmokeRings();
+            s.law(5, 99);
+            s.wall(90);
+            text(s, 1, "!(w=20)*999+!(k=4)*999");
+            return s;
+        };
+        refused("RING 0 is not lost at once", exact, s -> s.alike(1, 50), NONE);
+        looks("nor is RING 1", exact, s -> s.alike(2, 50), 49);
+        // RING 0 is lifted by half of 45 * v / 100 and 200 wide then, and is torn if it is NEAR RING 1, which is 20 wide
+        Maker torn = () -> {
+            SmokeRings s = lossless();
+            s.law(6, 45);
+            s.law(4, 0);
+            s.wall(90);
+            return s;
+        };
+        looks("219 apart in Y", torn, s -> s.alike(2, 977), 99);
+        refused("220 apart in Y", torn, s -> s.alike(2, 978), NONE);
         looks("RING 0 is 99 far from WALL, RING 1 119", () -> wallAt(99), s -> s.alike(2, 50), 49);
         refused("RING 0 is 100 far from WALL", () -> wallAt(100), s -> s.alike(1, 50), NONE);
         refused("RING 1 is 99 far from WALL", () -> wallAt(79), s -> s.alike(2, 50), NONE);

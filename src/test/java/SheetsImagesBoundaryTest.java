@@ -1,12 +1,9 @@
-/** The boundary cases of promises 33 to 38 and 40 to 45, of "Terms" 4, and of what "Terms" says of ERRORS. */
+/** The boundary cases of promises 33 to 38 and 40 to 45, and of "Terms" 4. */
 public final class SheetsImagesBoundaryTest extends Boundary {
     private static final int[] NO_SHEETS = {-1, 4, LEAST, MOST};
 
     public static void main(String[] args) {
         SheetsImagesBoundaryTest test = new SheetsImagesBoundaryTest();
-        test.errors();
-        test.ordersOfErrors();
-        test.manyCalls();
         test.seeds();
         test.voicesGoRound();
         test.voicesRefused();
@@ -32,80 +29,6 @@ public final class SheetsImagesBoundaryTest extends Boundary {
         test.counts();
         test.told();
         test.finish();
-    }
-
-    private void errors() {
-        says("ERRORS are answers below -1000000000: LOW is -1000000000; LOW - 1 BEYOND .. LOW - 5 KIND");
-        SmokeRings s = withRings(8);
-        s.law(0, 0);
-        due("BEYOND", s.wall(100000), -1000000001);
-        due("NONE", s.restore(), -1000000002);
-        due("STATE", s.sheet(0, 8, -1), -1000000003);
-        due("FULL", s.stroke(1, 1), -1000000004);
-        due("KIND", s.as(0, 1), -1000000005);
-    }
-
-    private void ordersOfErrors() {
-        says("Each act tells its ERRORS in the order in which they are asked");
-        SmokeRings s = full();
-        due("ring: BEYOND, FULL", s.ring(0, 1, 1, 101), BEYOND);
-        due("law: BEYOND, FULL", s.law(7, 1), BEYOND);
-        due("as: BEYOND, KIND", s.as(6, 1), BEYOND);
-        due("stroke: BEYOND, FULL", s.stroke(0, 1), BEYOND);
-        due("feed: BEYOND, FULL", s.feed(0, 0), BEYOND);
-        due("ticks: BEYOND, STATE", s.ticks(0), BEYOND);
-        due("breeze: BEYOND, STATE", s.breeze(0), BEYOND);
-        due("far: BEYOND, NONE", s.far(61, 7), BEYOND);
-        due("knock: BEYOND, NONE", s.knock(61, 7, 0), BEYOND);
-        due("second: BEYOND, FULL", s.second(61, 0, 1), BEYOND);
-        due("second: FULL, NONE", s.second(0, 0, 1), FULL);
-        SmokeRings none = new SmokeRings();
-        due("alike: BEYOND, NONE", none.alike(61, 0), BEYOND);
-        due("off: BEYOND, NONE", none.off(4), BEYOND);
-        due("spun: BEYOND, NONE", none.spun(4), BEYOND);
-        due("made: BEYOND, NONE", none.made(4), BEYOND);
-        due("film: BEYOND, NONE", none.film(4), BEYOND);
-        due("sheet: BEYOND, STATE", none.sheet(4, 8, -1), BEYOND);
-        due("sheet: BEYOND, STATE", none.sheet(0, 7, -1), BEYOND);
-        due("put: BEYOND, NONE", none.put(4, -1, 0), BEYOND);
-        due("put: NONE, BEYOND", none.put(0, -1, 0), NONE);
-        none.sheet(0, 8, 1);
-        none.sheet(1, 16, 1);
-        due("move: BEYOND, NONE", none.move(4, 0, 2, 0, 0), BEYOND);
-        due("move: BEYOND, NONE", none.move(2, 0, 4, 0, 0), BEYOND);
-        due("move: NONE, KIND, BEYOND", none.move(0, -1, 2, 0, -1), NONE);
-        due("move: NONE, KIND, BEYOND", none.move(2, -1, 0, 0, -1), NONE);
-        due("move: KIND, BEYOND", none.move(0, -1, 1, 0, -1), KIND);
-    }
-
-    private void manyCalls() {
-        says("An object is used for at most 512 calls");
-        SmokeRings s = new SmokeRings();
-        for (int i = 1; i <= 512; i++) {
-            due("image", s.image(), i);
-        }
-        SmokeRings wrong = new SmokeRings();
-        for (int i = 1; i <= 511; i++) {
-            wrong.front();
-        }
-        due("told behind 511", wrong.told(2), 511);
-        SmokeRings told = new SmokeRings();
-        for (int i = 1; i <= 511; i++) {
-            due("told(0)", told.told(0), BEYOND);
-        }
-        due("told behind 511", told.told(1), 511);
-        SmokeRings fed = new SmokeRings();
-        for (int i = 0; i < 250; i++) {
-            fed.feed('7', 1);
-            due("a TEXT in place of one ahead", fed.text(i % 2), 1);
-        }
-        SmokeRings restored = rich();
-        for (int i = 0; i < 100; i++) {
-            restored.image();
-            restored.restore();
-        }
-        due("NOW", restored.count(0), 3);
-        due("how often", restored.image(), 102);
     }
 
     private void seeds() {
@@ -147,6 +70,7 @@ public final class SheetsImagesBoundaryTest extends Boundary {
         due("HEADLONG ends: the most less 99, turned", speaking(0, 3, 99).voice(0, 2, MOST), -(MOST - 99));
         due("TORN goes: the most and 1", speaking(0, 4, 0).voice(0, 0, MOST), LEAST);
         due("TORN ends: as HEADLONG", speaking(0, 4, 0).voice(0, 2, LEAST), LEAST);
+        due("TORN tells: 0 ^ -(the most), less 3", speaking(0, 4, 0).voice(0, 3, MOST), MOST - 1);
         due("WALLED moves: (the most and 5) twice, turned by 5", speaking(5, 5, 0).voice(5, 1, MOST), 8 ^ 5);
         due("SLANTED ends: m less m", speaking(0, 6, 99).voice(0, 2, LEAST), LEAST);
         due("SLANTED tells: 2 x less (2 x ^ x), x 2 ^ 30", speaking(0, 6, 7).voice(0, 3, 1 << 30), LEAST - (LEAST ^ 1 << 30));

@@ -205,6 +205,10 @@ public final class StrokesTextsBoundaryTest extends Boundary {
         SmokeRings whole = new SmokeRings();
         due("50 bytes", text(whole, 0, "1+1+1+1+1+1+1+1+1+1+1+1+1+1+1+1+1+1+1+1+1+1+1+1+11"), 1);
         due("they give", whole.gives(0, 0, 0, 0), 35);
+        due("50 bytes, each with a meaning", text(whole, 0, "!1+1+1+1+1+1+1+1+1+1+1+1+1+1+1+1+1+1+1+1+1+1+1+1+1"), 1);
+        due("they give", whole.gives(0, 0, 0, 0), 24);
+        due("50 bytes, of which 5 are open", text(whole, 0, "(((((1+1+1+1+1+1+1+1+1+1+1+1+1+1+1+1+1+1+1+10)))))"), 1);
+        due("they give", whole.gives(0, 0, 0, 0), 29);
         due("THE TAPE has room for 50 anew", text(whole, 1, "((((((((((((((((((((((((((((((((((((((((((((((((((("), -15);
     }
 
@@ -235,6 +239,21 @@ public final class StrokesTextsBoundaryTest extends Boundary {
         }
         for (int k = 1; k <= 5; k++) {
             due("no ERROR", s.told(k), 0);
+        }
+        says("16: (what one has left open or begun is no part of the next)");
+        for (String bad : new String[] {"(((((", "!!!!!", "!(!(!", "((((((", "(((((1+", "1234", "12", "l+7", "12x", "l1"}) {
+            SmokeRings next = new SmokeRings();
+            text(next, 0, bad);
+            due("5 open behind " + bad, text(next, 0, "(((((l)))))"), 1);
+            text(next, 0, bad);
+            due("5 open behind " + bad, text(next, 0, "!!!!!l"), 1);
+            text(next, 0, bad);
+            due("l1 behind " + bad, text(next, 0, "l1"), -11);
+            text(next, 0, bad);
+            due("12345 behind " + bad, text(next, 0, "12345"), -14);
+            text(next, 0, bad);
+            due("1234 behind " + bad, text(next, 0, "1234-1230"), 1);
+            due("it gives", next.gives(0, 0, 0, 0), 4);
         }
         SmokeRings none = new SmokeRings();
         text(none, 0, "9+");
@@ -305,6 +324,10 @@ public final class StrokesTextsBoundaryTest extends Boundary {
         fault(0, "00000", 4);
         fault(0, "1+12345", 6);
         fault(0, "(1234)5", 6);
+        fault(0, "(1)2", 3);
+        fault(0, "1+l2", 3);
+        fault(0, "1*(l)2", 5);
+        fault(0, "12+q3", 4);
         fine("1234-1230+1234-1230", 8);
         fine("l", 3);
         fine("q", 4);
