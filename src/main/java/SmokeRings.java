@@ -831,7 +831,7 @@ public final class SmokeRings {
 
         /** How strongly the other RING draws, whichever way. */
         int pull(Ring ring, Ring other) {
-            return m * other.turning / (ring.gap(other) + 10);
+            return quotient(m * other.turning, ring.gap(other) + 10);
         }
 
         int widens(Ring ring, Ring other) {
@@ -963,7 +963,7 @@ public final class SmokeRings {
         @Override
         int spreads(Ring ring, int wall) {
             int distance = Math.abs(wall - ring.x);
-            return distance < 100 ? m * ring.turning / (distance + 10) : 0;
+            return distance < 100 ? quotient(m * ring.turning, distance + 10) : 0;
         }
 
         @Override

@@ -1,3 +1,6 @@
+import java.util.HashSet;
+import java.util.Set;
+
 /** What the tests of boundary cases share: each names a sentence of the document and asks for what is due by it. */
 abstract class Boundary {
     static final int BEYOND = -1000000001;
@@ -9,7 +12,7 @@ abstract class Boundary {
     static final int MOST = Integer.MAX_VALUE;
 
     private String sentence = "";
-    private int sentences = 0;
+    private final Set<String> sentences = new HashSet<>();
     private int asked = 0;
     private int wrong = 0;
 
@@ -24,7 +27,7 @@ abstract class Boundary {
     /** The sentence by which is due what follows. */
     final void says(String sentence) {
         this.sentence = sentence;
-        sentences++;
+        sentences.add(sentence);
     }
 
     final void due(String call, int got, int want) {
@@ -80,7 +83,7 @@ abstract class Boundary {
     }
 
     final void finish() {
-        System.out.println(wrong == 0 ? "all " + asked + " answers for " + sentences + " sentences are as due"
+        System.out.println(wrong == 0 ? "all " + asked + " answers for " + sentences.size() + " sentences are as due"
             : wrong + " answers are not as due");
         if (wrong != 0) {
             System.exit(1);

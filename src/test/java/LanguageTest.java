@@ -108,6 +108,7 @@ public final class LanguageTest {
             rule(6, !Pattern.compile("\\b" + word + "\\b").matcher(code).find(), "the word " + word);
         }
         rule(2, !code.contains("->") && !code.contains("::"), "a lambda or a method reference");
+        divisorsAreLookedAt(code);
         Matcher imports = Pattern.compile("import ([^;]+);").matcher(code);
         while (imports.find()) {
             rule(4, imports.group(1).equals("java.util.Arrays"), "import of " + imports.group(1));
@@ -116,6 +117,15 @@ public final class LanguageTest {
         Set<String> allowed = Set.of("Math.abs", "Math.min", "Math.max", "Arrays.fill", "System.arraycopy");
         while (library.find()) {
             rule(4, allowed.contains(library.group()), "the library's " + library.group());
+        }
+    }
+
+    /** What divides is a number that stands there, or was asked for being 0 in the same line. */
+    private static void divisorsAreLookedAt(String code) {
+        String rest = code.replaceAll("[^\n]* == 0 \\? 0 : [^\n]*", "");
+        Matcher divisor = Pattern.compile("[/%]=? *(?![0-9/%= ])[^\n]*").matcher(rest);
+        while (divisor.find()) {
+            rule(7, false, "a divisor that was not looked at: " + divisor.group());
         }
     }
 
