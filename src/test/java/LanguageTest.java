@@ -1,4 +1,5 @@
 import java.lang.management.ManagementFactory;
+import java.lang.reflect.Constructor;
 import java.lang.reflect.Field;
 import java.lang.reflect.Method;
 import java.lang.reflect.Modifier;
@@ -14,6 +15,7 @@ import java.util.regex.Pattern;
 /** The rules of LANGUAGE.md that can be seen in the source or in the compiled class, and how much calls make. */
 public final class LanguageTest {
     private static final Path SOURCE = Path.of("src/main/java/SmokeRings.java");
+    private static final Path DOCUMENT = Path.of("../shared/DOC.md");
     private static final String FACE = "ring ofRing end wall law ofLaw as turn does pair hole stroke trails feed text gives"
         + " ticks breeze front then whole turns far knock farthest second alike off spun made heart seed voice trace"
         + " sheet put move film image restore tell check count told";
@@ -21,6 +23,7 @@ public final class LanguageTest {
 
     public static void main(String[] args) throws Exception {
         faceIsTheDocuments();
+        faceTakesWhatTheDocumentHas();
         classesInsideAreInBounds();
         sourceHasNothingElse();
         methodsAreShort();
@@ -63,6 +66,35 @@ public final class LanguageTest {
                 rule(1, !face.contains(method.getName()), "named as one of the face: " + method);
             }
         }
+    }
+
+    /** The face to the letter: the lines of the document's own block, with the types of what calls take. */
+    private static void faceTakesWhatTheDocumentHas() throws Exception {
+        String document = Files.readString(DOCUMENT, StandardCharsets.UTF_8);
+        Set<String> due = new HashSet<>();
+        Matcher line = Pattern.compile("(?m)^    public (\\w+ )?(\\w+)\\((.*)\\);$").matcher(document);
+        while (line.find()) {
+            due.add((line.group(1) == null ? "" : line.group(1)) + line.group(2) + "("
+                + line.group(3).replaceAll("(\\w+) \\w+", "$1") + ")");
+        }
+        Set<String> found = new HashSet<>();
+        for (Constructor<?> made : SmokeRings.class.getConstructors()) {
+            found.add(made.getName() + types(made.getParameterTypes()));
+        }
+        for (Method method : SmokeRings.class.getMethods()) {
+            if (method.getDeclaringClass() == SmokeRings.class) {
+                found.add(method.getReturnType() + " " + method.getName() + types(method.getParameterTypes()));
+            }
+        }
+        rule(1, due.size() == 45 && found.equals(due), "the face is " + found + ", the document's " + due);
+    }
+
+    private static String types(Class<?>[] types) {
+        StringBuilder told = new StringBuilder("(");
+        for (Class<?> type : types) {
+            told.append(told.length() == 1 ? "" : ", ").append(type.getName());
+        }
+        return told.append(")").toString();
     }
 
     private static void classesInsideAreInBounds() {
